@@ -225,6 +225,15 @@ public final class PromisesTest {
         due("REST as the VISIT began is 1", x.told(5), 1);
         due("out(2) as the VISIT began", x.out(2), -3);
         x.start(2);
+        x.thrown(0);
+        x.thrown(0);
+        x.thrown(0);
+        x.thrown(1);
+        x.thrown(0);
+        x.thrown(0);
+        standing(x, "PLAYER 1 is at 1 alone", 0, 3, 2, 1);
+        due("out(1) at PLAYER 1's REST of 1", x.out(1), -3);
+        x.start(2);
         due("out(1) when no REST is 1", x.out(1), 0);
         due("a REST of 1 is BUST at once", x.falls(2, 1), BUST);
     }
@@ -654,6 +663,10 @@ public final class PromisesTest {
             due("THE TAPE behind '" + texts[i] + "'", x.told(7), 0);
         }
         DartMind x = new DartMind();
+        due("OB", judge(x, "OB", 501), 1476);
+        due("O where OB was", judge(x, "O", 501), -101);
+        due("S12", judge(x, "S12", 501), 1489);
+        due("S1 where S12 was", judge(x, "S1", 501), 1500);
         due("twelve", judge(x, "- - - - - - - - - - - -", 501), 1501);
         due("a thirteenth's blank", judge(x, "- - - - - - - - - - - - ", 501), -123);
         due("a thirteenth", judge(x, "- - - - - - - - - - - - -", 501), -123);
