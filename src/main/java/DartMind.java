@@ -491,12 +491,12 @@ public final class DartMind {
 
     private static long bitsOfDouble(double x) {
         long bits = bitsOfSize(x < 0.0 ? -x : x, 52, 1023);
-        return x < 0.0 ? bits | Long.MIN_VALUE : bits;
+        return x < 0.0 ? bits | 1L << 63 : bits;
     }
 
     private static int bitsOfFloat(float x) {
         int bits = (int) bitsOfSize(x < 0.0f ? -x : x, 23, 127);
-        return x < 0.0f ? bits | Integer.MIN_VALUE : bits;
+        return x < 0.0f ? bits | 1 << 31 : bits;
     }
 
     /** Exponent and fraction by halving and doubling, which are exact: Double and Float aren't there to ask. */

@@ -6,6 +6,8 @@ import java.nio.file.Files;
 import java.nio.file.Path;
 import java.util.Set;
 import java.util.TreeSet;
+import java.util.regex.Matcher;
+import java.util.regex.Pattern;
 
 /** The face of the class, and those rules of LANGUAGE.md that can be seen from outside or from the words of the file. */
 public final class FaceTest {
@@ -21,7 +23,11 @@ public final class FaceTest {
         "int judged(int,int,int)", "int image()", "int undo()"};
     private static final String[] FORBIDDEN = {
         "Double.", "Float.", "Exact(", "->", "::", "static {", "catch", "throw new", "synchronized", "assert",
-        "record ", "java.util.*", "Random", "nanoTime", "currentTime", "String.format", "finally", "public static void"};
+        "record ", "java.util.*", "Random", "nanoTime", "currentTime", "String.format", "finally", "public static void",
+        "MIN_VALUE", "MAX_VALUE", "\""};
+    // All of the library that the class has use for, out of what rule 4 lists.
+    private static final Set<String> LIBRARY = Set.of("Arrays.fill", "System.arraycopy", "Math.floorMod");
+    private static final int MOST_CLASSES = 12, MOST_LINES = 60, MOST_PARAMETERS = 7, MOST_FIELDS = 20;
 
     public static void main(String[] args) throws Exception {
         Checks checks = new Checks("FaceTest");
@@ -33,7 +39,42 @@ public final class FaceTest {
         for (String word : FORBIDDEN) {
             checks.holds("the file is without '" + word + "'", !text.contains(word));
         }
+        checkLibrary(checks, text);
+        checkSizes(checks, text);
         checks.end();
+    }
+
+    /** Rule 4: no name of the library but those of the list. */
+    private static void checkLibrary(Checks checks, String text) {
+        Matcher imports = Pattern.compile("(?m)^import (.*);$").matcher(text);
+        while (imports.find()) {
+            checks.holds("import " + imports.group(1), imports.group(1).equals("java.util.Arrays"));
+        }
+        Matcher names = Pattern.compile("\\b[A-Z][a-z]\\w*\\.\\w+").matcher(text);
+        while (names.find()) {
+            String owner = names.group().substring(0, names.group().indexOf('.'));
+            boolean own = text.contains(" class " + owner + " {");
+            checks.holds(names.group() + " is of rule 4's list", own || LIBRARY.contains(names.group()));
+        }
+    }
+
+    /** Rule 11: how many classes, how long the methods. */
+    private static void checkSizes(Checks checks, String text) {
+        checks.holds("at most 12 classes", DartMind.class.getDeclaredClasses().length + 1 <= MOST_CLASSES);
+        int depth = 0;
+        int begun = 0;
+        String[] lines = text.split("\n");
+        for (int i = 0; i < lines.length; i++) {
+            String code = lines[i].replaceAll("//.*|'.'", "");
+            if (code.endsWith(") {") && code.matches(" {4}(?: {4})?(?! )(?!for|if|while|switch).*")) {
+                depth = code.indexOf(code.trim());
+                begun = i;
+            }
+            if (begun > 0 && code.equals(" ".repeat(depth) + "}")) {
+                checks.holds("line " + (begun + 1) + ": a short method", i - begun < MOST_LINES);
+                begun = 0;
+            }
+        }
     }
 
     private static void checkFace(Checks checks) throws Exception {
@@ -55,6 +96,8 @@ public final class FaceTest {
             checks.holds(field.toString(), constant
                     ? field.toGenericString().startsWith("public static final int ")
                     : Modifier.isPrivate(field.getModifiers()));
+            checks.holds(field + " is final, if static",
+                    !Modifier.isStatic(field.getModifiers()) || Modifier.isFinal(field.getModifiers()));
         }
         checks.due("NONE", DartMind.NONE, -1);
         checks.due("BAD", DartMind.BAD, -2);
@@ -70,6 +113,7 @@ public final class FaceTest {
             for (String told : METHODS) {
                 checks.holds(method + " has a name of its own", !told.contains(" " + method.getName() + "("));
             }
+            checks.holds(method + " takes few parameters", method.getParameterCount() <= MOST_PARAMETERS);
         }
         int fields = 0;
         for (Field field : inner.getDeclaredFields()) {
@@ -77,7 +121,7 @@ public final class FaceTest {
             fields += shared ? 0 : 1;
             checks.holds(field + " is final, if static", !shared || Modifier.isFinal(field.getModifiers()));
         }
-        checks.holds(inner + " has at most 20 fields", fields <= 20);
+        checks.holds(inner + " has at most 20 fields", fields <= MOST_FIELDS);
     }
 
     private static String told(Method method) {
