@@ -1,6 +1,6 @@
 /**
- * Whole tables, each folded into one number. The numbers due were made by a second program, written from the document
- * alone in another language: so they hold where the class and the Oracle here might share a misreading.
+ * Whole tables, each folded into one number. The numbers due were made by a second program, written along the document
+ * in another language (by one who had read the class before): a slip of the class and the Oracle alike would show here.
  */
 public final class TablesTest {
     private static final int MOST_CALLS = 500;
